@@ -444,8 +444,8 @@ public final class HopRules {
             return true;
         }
         Preflight asked = new Preflight(request, hop, now);
-        int kept = placeOfKept(asked);
-        if (kept >= 0 && (keptPreflights.get(kept).others & needed) == needed) {
+        Preflight kept = findKept(asked);
+        if (kept != null && (kept.others & needed) == needed) {
             return true;
         }
         preflightCount++;
@@ -454,26 +454,29 @@ public final class HopRules {
             return false;
         }
         if (hop.address.allowedAge > 0) {
-            keep(asked, kept);
+            keep(asked);
         }
         return true;
     }
 
-    private int placeOfKept(Preflight asked) {
+    private Preflight findKept(Preflight asked) {
         for (int i = 0; i < keptPreflights.size(); i++) {
-            if (keptPreflights.get(i).isForSame(asked)) {
-                return i;
+            Preflight kept = keptPreflights.get(i);
+            if (kept.isForSame(asked)) {
+                return kept;
             }
         }
-        return -1;
+        return null;
     }
 
-    private void keep(Preflight granted, int place) {
-        if (place >= 0 && place < keptPreflights.size()) {
-            keptPreflights.set(place, granted);
-        } else {
-            keptPreflights.add(granted);
+    private void keep(Preflight granted) {
+        for (int i = 0; i < keptPreflights.size(); i++) {
+            if (keptPreflights.get(i).isForSame(granted)) {
+                keptPreflights.set(i, granted);
+                return;
+            }
         }
+        keptPreflights.add(granted);
     }
 
     private void dropGonePreflights() {
@@ -1042,11 +1045,10 @@ public final class HopRules {
         private final int partition;
         private int lastTick;
 
-        private Connection(int origin, boolean hasCredentials, int partition, int lastTick) {
+        private Connection(int origin, boolean hasCredentials, int partition) {
             this.origin = origin;
             this.hasCredentials = hasCredentials;
             this.partition = partition;
-            this.lastTick = lastTick;
         }
     }
 
@@ -1066,7 +1068,7 @@ public final class HopRules {
                 used = open.remove(place);
             }
             if (used == null || now - used.lastTick > MAX_IDLE_TICKS) {
-                used = new Connection(address.origin(), hasCredentials, partition, now);
+                used = new Connection(address.origin(), hasCredentials, partition);
                 openedCount++;
             }
             if (open.size() >= MAX_CONNECTIONS) {

@@ -105,6 +105,17 @@ public final class CookiesSentTest {
         x.setsCookie(deep, 1, 7, -1, 0, SECURE, 0);
         x.request(0, deep, 0, 2, 0, false);
         sends(x, "replaced keeps its place", deep, 2, 0, "2002,4004,1007,3003,");
+        for (int digit = 1; digit < 10; digit++) {
+            HopRules y = scene();
+            for (int path = digit; path < 1000; path = 10 * path + digit) {
+                put(y, 0, path % 7, -1, path, SECURE);
+            }
+            int three = 111 * digit % 7;
+            int two = 11 * digit % 7;
+            int one = digit % 7;
+            String due = 1001 * three + "," + 1001 * two + "," + 1001 * one + ",";
+            sends(y, "segments " + digit, y.address(1, 0, 0, 111 * digit), 2, 0, due);
+        }
     }
 
     private static void sendsSecureOnes() {

@@ -39,12 +39,16 @@ final class Due {
         is(what, thrownBy(call), "IllegalStateException");
     }
 
+    /** The name of the exception; one that HopRules does not throw itself is told with the place that throws it. */
     static String thrownBy(Call call) {
         try {
             call.run();
             return "nothing";
         } catch (RuntimeException e) {
-            return e.getClass().getSimpleName();
+            StackTraceElement[] trace = e.getStackTrace();
+            String thrower = trace.length == 0 ? "the machine" : trace[0].getClassName();
+            String name = e.getClass().getSimpleName();
+            return thrower.equals("HopRules") ? name : name + " of " + thrower;
         }
     }
 

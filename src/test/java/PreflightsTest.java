@@ -103,6 +103,13 @@ public final class PreflightsTest {
         put(x, 0, 1, 0);
         put(x, 0, 1, 0);
         Due.is("the age 0 keeps none", x.count(2), 5);
+        x.allow(1, 0, false, 1, 1);
+        put(x, 0, 1, 0);
+        put(x, 0, 1, 0);
+        Due.is("the age 1 keeps it", x.count(2), 6);
+        x.pass(1);
+        put(x, 0, 1, 0);
+        Due.is("the age 1 is over", x.count(2), 7);
     }
 
     private static void keepsForTheSameAlone() {

@@ -2,6 +2,8 @@
 public final class RequestsTest {
     public static void main(String[] args) {
         endsReadableOrOpaque();
+        tellsOrigins();
+        tellsSites();
         refusesForMixing();
         changesForMixing();
         mixesBehindRedirects();
@@ -65,6 +67,48 @@ public final class RequestsTest {
         x.redirect(1, -1, 0);
         ends(x, "free, away", x.request(0, 0, 0, 0, 0, false), 1);
         ends(x, "navigates away", x.request(0, 0, 1, 2, 1, false), 0);
+    }
+
+    private static void tellsOrigins() {
+        int[] ports = {0, 79, 80, 81, 82, 443, 444, 445, 9999};
+        int[] pagePorts = {0, 80, 81, 443};
+        for (int pair = 0; pair < 16 * pagePorts.length * ports.length; pair++) {
+            int schemes = pair % 4;
+            int hosts = pair / 4 % 4;
+            int pagePort = pagePorts[pair / 16 % pagePorts.length];
+            int port = ports[pair / 16 / pagePorts.length];
+            HopRules x = new HopRules();
+            x.host(-1, 0, false);
+            x.host(-1, 1, false);
+            int page = x.address(schemes / 2, hosts / 2, pagePort, 1);
+            int asked = x.address(schemes % 2, hosts % 2, port, 2);
+            x.page(page, -1, 2);
+            x.request(0, asked, 0, 2, 0, false);
+            int[] usual = {80, 443};
+            int realPagePort = pagePort == 0 ? usual[schemes / 2] : pagePort;
+            int realPort = port == 0 ? usual[schemes % 2] : port;
+            boolean isSame = schemes % 3 == 0 && hosts % 3 == 0 && realPagePort == realPort;
+            Due.is(Due.text(x, page) + " and " + Due.text(x, asked), x.hop(0, 0) % 10, isSame ? 2 : 0);
+        }
+    }
+
+    private static void tellsSites() {
+        for (int page = 0; page < 8; page++) {
+            for (int asked = 0; asked < 8; asked++) {
+                HopRules x = new HopRules();
+                for (int i = 0; i < 8; i++) {
+                    x.address(i % 2, x.host(-1, i / 2, false), 0, 0);
+                }
+                x.page(page, -1, 0);
+                x.request(0, page, 0, 2, 0, false);
+                x.request(0, asked, 0, 2, 0, false);
+                Due.is("sites " + page + " and " + asked, x.count(0), page == asked ? 1 : 2);
+                x.setsCookie(asked, 1, 1, -1, 0, 8, 0);
+                x.request(0, asked, 0, 2, 0, false);
+                x.request(0, asked, 0, 2, 0, false);
+                Due.is("from afar " + page + " and " + asked, Due.sent(x, 3, 0), page == asked ? "1001," : "");
+            }
+        }
     }
 
     private static void refusesForMixing() {
