@@ -1,6 +1,6 @@
 /**
  * Runs of calls with arguments in and out of range: only the exceptions of the document come, a call
- * that throws changes nothing that can be seen, and each request is judged as it was told.
+ * that throws changes nothing that can be seen, at once or later, and each request is judged as it was told.
  */
 public final class AnyCallsTest {
     private static final int RUNS = 60;
@@ -28,10 +28,13 @@ public final class AnyCallsTest {
 
     private void run(int run) {
         x = new HopRules();
+        // It takes the same calls but for those that throw, so that both are always in the same state.
+        HopRules twin = new HopRules();
         requests = 0;
         for (int call = 0; call < CALLS; call++) {
             int kind = call < 30 ? below(5) : call < 60 ? below(13) : below(22);
             String before = Due.state(x);
+            long seedBefore = seed;
             String thrown = Due.thrownBy(() -> call(kind));
             String what = "run " + run + ", call " + call + " of the kind " + kind;
             boolean isDue = thrown.equals("nothing") || thrown.equals("IndexOutOfBoundsException")
@@ -39,6 +42,8 @@ public final class AnyCallsTest {
             Due.is(what + " throws " + thrown, isDue, true);
             if (thrown.equals("nothing")) {
                 answering++;
+                callAgain(twin, kind, seedBefore);
+                Due.is(what + ": without those that threw", Due.state(twin), Due.state(x));
             } else {
                 throwing++;
                 Due.is(what + " throws and changes", Due.state(x), before);
@@ -46,6 +51,20 @@ public final class AnyCallsTest {
             Due.is(what + ": cookies are at most 10", x.cookies() <= 10, true);
             Due.is(what + ": connections are at most 6", x.count(1) <= 6, true);
         }
+    }
+
+    /** The same call with the same arguments on another object. */
+    private void callAgain(HopRules twin, int kind, long seedBefore) {
+        HopRules first = x;
+        int requestsBefore = requests;
+        x = twin;
+        seed = seedBefore;
+        if (kind >= 13 && kind < 19) {
+            requests--;
+        }
+        call(kind);
+        x = first;
+        requests = requestsBefore;
     }
 
     private int below(int limit) {
