@@ -6,6 +6,7 @@ public final class PreflightBoundsTest {
     public static void main(String[] args) {
         needsOneForEachReason();
         needsOneWithATaint();
+        needsOneForTheHeaderThatIsKept();
         keepsItForTheSamePageOrigin();
         keepsItForTheTaint();
         keepsItForTheSameAddress();
@@ -67,6 +68,22 @@ public final class PreflightBoundsTest {
         x.allow(0, -3, false, 1, 0);
         Due.is("granted at home", put(x, 0, 1), 0);
         Due.is("one each again", x.count(2), 4);
+    }
+
+    /** "(A request that becomes GET by that keeps its header.)" */
+    private static void needsOneForTheHeaderThatIsKept() {
+        int[][] becomesGet = {{0, 1}, {1, 1}, {2, 1}, {2, 2}};
+        for (int[] statusAndMethod : becomesGet) {
+            HopRules x = scene(0);
+            x.redirect(0, 1, statusAndMethod[0]);
+            x.allow(1, -2, false, 2, 0);
+            Due.is("with its header", x.request(0, 0, statusAndMethod[1], 1, 0, true), 0);
+            Due.is("one for the header", x.count(2), 1);
+            Due.is("without a header", x.request(0, 0, statusAndMethod[1], 1, 0, false), 0);
+            Due.is("none for GET", x.count(2), 1);
+            x.allow(1, -2, false, 1, 0);
+            Due.is("headers are not allowed", x.request(0, 0, statusAndMethod[1], 1, 0, true), 5);
+        }
     }
 
     /** "unless one is kept: for the same page origin [...]" */
@@ -136,6 +153,15 @@ public final class PreflightBoundsTest {
         put(x, 0, 1);
         put(x, inner, 1);
         Due.is("kept for both", x.count(2), 2);
+        x.allow(1, -2, false, 3, 0);
+        x.redirect(1, 0, 4);
+        x.allow(0, -3, false, 3, 9);
+        put(x, 0, 1);
+        Due.is("with the taint", x.count(2), 3);
+        put(x, near, 1);
+        Due.is("with the taint, of the same site", x.count(2), 3);
+        put(x, inner, 1);
+        Due.is("with the taint, in another partition", x.count(2), 4);
     }
 
     /** "[...] as long as its time has not come [...]", "it is kept until so many ticks later" */
